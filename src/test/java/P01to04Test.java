@@ -13,6 +13,7 @@ public final class P01to04Test {
         requests();
         tokens();
         whatLoadReplaces();
+        loadsOneBehindAnother();
         whatErrorsLeave();
         errorPositions();
         Due.end();
@@ -124,6 +125,8 @@ public final class P01to04Test {
         bad("branches ^;", 1);
         bad("^branch 2;", 1);
         bad("^branchess 2;", 1);
+        bad("^branchesz 2;", 1);
+        bad("^aranches 2;", 1);
         bad("^branchesvan 2;", 1);
         bad("^2;", 1);
         bad("branches ^1;", 2);
@@ -252,6 +255,33 @@ public final class P01to04Test {
         Due.is("undo()", x.undo(), BranchCourier.NONE);
         Due.is("restoreSnapshot()", x.restoreSnapshot(), false);
         Due.is("format(0)", Due.format(x, 0), "0@3");
+    }
+
+    /** What earlier loads and forecasts left in rows that are used again must not be seen. */
+    private static void loadsOneBehindAnother() {
+        Due.promise(3, "loads one behind another");
+        BranchCourier x = new BranchCourier();
+        for (int i = 0; i < 4; i++) {
+            String text = i % 2 == 0 ? "branches 3;van 4 0 1 2;van 2 1 2;book 0;book 2;hold 20;ask 0 3 1;ask 1 3 1;"
+                : "branches 2;van 3 1 0;book 1;ask 0 4 0;";
+            Due.is("load " + i, Due.load(x, text), i % 2 == 0 ? 2 : 1);
+            Due.is("size(2)", x.size(2), i % 2 == 0 ? 2 : 1);
+            Due.is("size(5)", x.size(5), 0);
+            Due.is("size(6)", x.size(6), i % 2 == 0 ? 20 : 10);
+            Due.is("size(4)", x.size(4), i % 2 == 0 ? 2 : 1);
+            Due.is("size(12)", x.size(12), 0);
+            Due.is("van(0, 0)", x.van(0, 0), i % 2 == 0 ? 4 : 3);
+            Due.is("van(0, 1)", x.van(0, 1), i % 2 == 0 ? 3 : 2);
+            Due.is("van(0, 2)", x.van(0, 2), 0);
+            Due.is("van(0, 5)", x.van(0, 5), i % 2 == 0 ? 3 : 2);
+            Due.is("size(1)", x.size(1), i % 2 == 0 ? 3 : 2);
+            x.run(4);
+            x.recall(0);
+            x.close(0);
+            x.bookIn(0, 0, 1);
+            Due.is("size(12) behind recall", x.size(12), 1);
+            Due.is("load with an error", Due.load(x, "branches 6;van 9 5 4 3 2 1 0 1 2;van 8 5 4;book 5;book 6;"), -12);
+        }
     }
 
     private static void whatErrorsLeave() {

@@ -186,6 +186,9 @@ public final class P05to13Test {
         x.run(1);
         Due.is("inVan(1, 0)", x.inVan(1, 0), 5);
         Due.missing("inVan(0, 0)", () -> x.inVan(0, 0));
+        BranchCourier y = at(6);
+        Due.is("inVan(1, 0) of book 0", y.inVan(1, 0), 0);
+        Due.is("inVan(0, 0) of book 1", y.inVan(0, 0), 1);
     }
 
     private static void branches() {

@@ -51,6 +51,10 @@ public final class P14to20Test {
         y.close(1);
         Due.is("past a closed stop", y.legs(0, 2), 1);
         Due.is("legs(2, 3)", y.legs(2, 3), 1);
+        y.close(0);
+        Due.is("legs(0, 0) of a closed branch", y.legs(0, 0), NONE);
+        y.open(0);
+        Due.is("legs(0, 0) of an open branch", y.legs(0, 0), 0);
     }
 
     private static void wouldLoad() {

@@ -37,6 +37,9 @@ public final class P21to26Test {
         Due.promise(22, "mostWanted");
         BranchCourier x = Due.loaded("branches 2;van 1 0 1;book 0;book 0;book 0;");
         Due.is("mostWanted() without requests", x.mostWanted(), NONE);
+        x.ask(0, 1, 1);
+        Due.is("mostWanted() of the first book", x.mostWanted(), 0);
+        x.cancel(0, 1);
         x.ask(2, 1, 1);
         Due.is("mostWanted()", x.mostWanted(), 2);
         x.ask(1, 1, 1);
@@ -104,6 +107,11 @@ public final class P21to26Test {
         // Without 1: 0 from 2, 3, 4 (6 pairs); without 4: 2 and 3 from 0 and 1 (8 pairs).
         Due.is("hub() of a star", y.hub(), 4);
         Due.is("legs(0, 3) behind hub()", y.legs(0, 3), 3);
+        // 5 is linked to most, but only 1 cuts any off: 0.
+        BranchCourier z = Due.loaded("branches 6;van 1 2 3 5 4;van 1 1 5 3 2;van 1 0 1;van 1 1 4;");
+        Due.is("hub() of 0 and the others", z.hub(), 1);
+        BranchCourier parts = Due.loaded("branches 5;van 1 0 1;van 1 2 3 4;");
+        Due.is("hub() where none cuts others off", parts.hub(), 0);
     }
 
     private static void loaded() {
@@ -119,6 +127,9 @@ public final class P21to26Test {
         BranchCourier y = Due.loaded("branches 2;van 1 1 0;van 6 0 1;book 0;ask 0 1 1;");
         y.run(1);
         Due.isExactly("loaded() as a double", y.loaded(), 1.0 / 7.0);
+        BranchCourier z = Due.loaded("branches 2;van 1 1 0;book 0;ask 0 1 1;");
+        z.run(1);
+        Due.isExactly("loaded() of a van for one book", z.loaded(), 1.0);
     }
 
     private static void lostShare() {

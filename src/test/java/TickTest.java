@@ -4,6 +4,7 @@ public final class TickTest {
 
     public static void main(String[] args) {
         loadingInOrder();
+        loadingRecalledOnes();
         loadingRequestedOnes();
         unloadingAheadOfLoading();
         changingVans();
@@ -48,6 +49,40 @@ public final class TickTest {
         tick(x, "0@0", "1@1", "2!1 3:1");
         tick(x, "0>0", "1@1", "2!1 3:1");
         tick(x, "0@1", "1@1", "2!1 3:1");
+    }
+
+    /** Book 0 goes home, book 1 is asked for, book 2 is recalled. */
+    private static void loadingRecalledOnes() {
+        Due.promise(37, "recalled books come ahead of requested ones with smaller numbers");
+        BranchCourier x = Due.loaded("branches 2;van 2 1 0;book 1;book 0;book 1;ask 0 1 0;ask 2 2 0;");
+        x.run(3);
+        x.take(0, 1);
+        x.take(2, 2);
+        x.giveBack(0, 0);
+        x.giveBack(2, 0);
+        x.ask(1, 3, 1);
+        x.recall(2);
+        tick(x, "0@0", "1@0 3:1", "2@0r");
+        tick(x, "0@0", "1>0 3:1", "2>0r");
+        tick(x, "0@0", "1!1 3:1", "2@1");
+        tick(x, "0>0", "1!1 3:1", "2@1");
+        BranchCourier y = Due.loaded("branches 2;van 1 1 0;book 0;book 1;ask 0 1 1;ask 1 2 0;");
+        y.run(3);
+        Due.is("book 1", Due.format(y, 1), "1!0 2:0");
+        y.take(1, 2);
+        y.giveBack(1, 0);
+        y.recall(1);
+        y.recall(0);
+        y.cancel(0, 1);
+        y.run(2);
+        Due.is("book 0 home again", Due.format(y, 0), "0@0");
+        y.ask(0, 4, 1);
+        y.lose(0);
+        y.find(1, 0);
+        tick(y, "0@0 4:1", "1@0r");
+        tick(y, "0@0 4:1", "1>0r");
+        tick(y, "0@0 4:1", "1@1");
+        tick(y, "0>0 4:1", "1@1");
     }
 
     private static void loadingRequestedOnes() {
