@@ -77,41 +77,26 @@ public final class P01to04Test {
         Due.illegal("load(1) behind an error", () -> x.load(1));
     }
 
-    private static void good(String text, int books) {
-        BranchCourier x = new BranchCourier();
-        Due.is("load of '" + text + "'", Due.load(x, text), books);
-        Due.is("errorPosition() of '" + text + "'", x.errorPosition(), BranchCourier.NONE);
-    }
-
-    /** The error is due at the byte behind the ^, which is no part of the text. */
-    private static void bad(String marked, int code) {
-        int position = marked.indexOf('^');
-        String text = marked.substring(0, position) + marked.substring(position + 1);
-        BranchCourier x = new BranchCourier();
-        Due.is("load of '" + text + "'", Due.load(x, text), -10 - code);
-        Due.is("errorPosition() of '" + text + "'", x.errorPosition(), position);
-    }
-
     private static String times(int n, String part) {
         return part.repeat(n);
     }
 
     private static void goodTexts() {
         Due.promise(3, "good texts");
-        good(HEAD, 0);
-        good("branches2;van5 0 1;", 0);
-        good("\n branches\n2 ; van 5\n0  1 ;\n ", 0);
-        good("branches 0000000000000000000000002;van 0009 00 01;hold 0050;", 0);
-        good("branches 6;van 1 5 0 5 4 3 2 1 0;", 0);
-        good(HEAD + "van 1 1 0;van 9 0 1;van 2 1 0;", 0);
-        good(HEAD + times(20, "book 1;"), 20);
-        good(HEAD + "book 0;book 1;hold 1;ask 0 0 0;ask 1 99 1;ask 1 0 0;", 2);
-        good(HEAD + "hold 50;", 0);
+        Due.good(HEAD, 0);
+        Due.good("branches2;van5 0 1;", 0);
+        Due.good("\n branches\n2 ; van 5\n0  1 ;\n ", 0);
+        Due.good("branches 0000000000000000000000002;van 0009 00 01;hold 0050;", 0);
+        Due.good("branches 6;van 1 5 0 5 4 3 2 1 0;", 0);
+        Due.good(HEAD + "van 1 1 0;van 9 0 1;van 2 1 0;", 0);
+        Due.good(HEAD + times(20, "book 1;"), 20);
+        Due.good(HEAD + "book 0;book 1;hold 1;ask 0 0 0;ask 1 99 1;ask 1 0 0;", 2);
+        Due.good(HEAD + "hold 50;", 0);
         StringBuilder asks = new StringBuilder(HEAD + "book 0;");
         for (int reader = 0; reader < 40; reader++) {
             asks.append("ask 0 ").append(reader).append(" 1;");
         }
-        good(asks.toString(), 1);
+        Due.good(asks.toString(), 1);
         BranchCourier x = Due.loaded(asks.toString());
         Due.is("size(4)", x.size(4), 40);
         Due.is("placeOf(0, 39)", x.placeOf(0, 39), 39);
@@ -119,119 +104,119 @@ public final class P01to04Test {
 
     private static void branches() {
         Due.promise(3, "branches");
-        bad("^", 1);
-        bad("  ^", 1);
-        bad("branches^", 1);
-        bad("branches ^;", 1);
-        bad("^branch 2;", 1);
-        bad("^branchess 2;", 1);
-        bad("^branchesz 2;", 1);
-        bad("^aranches 2;", 1);
-        bad("^branchesvan 2;", 1);
-        bad("^2;", 1);
-        bad("branches ^1;", 2);
-        bad("branches ^0;", 2);
-        bad("branches ^7;", 2);
-        bad("branches ^4294967298;", 2);
-        bad("branches ^18446744073709551618;", 2);
-        bad("branches ^99999999999999999999999999999999999999;", 2);
-        bad("branches ^-2;", 1);
-        bad("branches 2^", 1);
-        bad("branches 2 ^", 1);
-        bad("branches 2 ^3;", 1);
-        bad("branches 2;^", 1);
-        bad("branches 2;^;", 1);
-        bad("branches 2;^book 0;", 1);
-        bad("branches 2;^hold 5;", 1);
+        Due.bad("^", 1);
+        Due.bad("  ^", 1);
+        Due.bad("branches^", 1);
+        Due.bad("branches ^;", 1);
+        Due.bad("^branch 2;", 1);
+        Due.bad("^branchess 2;", 1);
+        Due.bad("^branchesz 2;", 1);
+        Due.bad("^aranches 2;", 1);
+        Due.bad("^branchesvan 2;", 1);
+        Due.bad("^2;", 1);
+        Due.bad("branches ^1;", 2);
+        Due.bad("branches ^0;", 2);
+        Due.bad("branches ^7;", 2);
+        Due.bad("branches ^4294967298;", 2);
+        Due.bad("branches ^18446744073709551618;", 2);
+        Due.bad("branches ^99999999999999999999999999999999999999;", 2);
+        Due.bad("branches ^-2;", 1);
+        Due.bad("branches 2^", 1);
+        Due.bad("branches 2 ^", 1);
+        Due.bad("branches 2 ^3;", 1);
+        Due.bad("branches 2;^", 1);
+        Due.bad("branches 2;^;", 1);
+        Due.bad("branches 2;^book 0;", 1);
+        Due.bad("branches 2;^hold 5;", 1);
     }
 
     private static void vans() {
         Due.promise(3, "vans");
-        bad("branches 2;van ^0 0 1;", 2);
-        bad("branches 2;van ^10 0 1;", 2);
-        bad("branches 2;van ^;", 1);
-        bad("branches 2;van 5^;", 1);
-        bad("branches 2;van 5 0^;", 1);
-        bad("branches 2;van 5 0 1^", 1);
-        bad("branches 2;van 5 ^2 1;", 2);
-        bad("branches 2;van 5 0 ^2;", 2);
-        bad("branches 2;van 5 0 ^0;", 4);
-        bad("branches 2;van 5 0 1 ^1;", 4);
-        bad("branches 2;van 5 0 1 0^;", 4);
-        bad("branches 2;van 5 0 1 0^", 1);
-        bad("branches 2;van 5 0 1 0 ^book 0;", 1);
-        bad("branches 3;van 5 2 1 0 1 2^;", 4);
-        good("branches 2;van 5 0 1 0 1 0 1 0 1;", 0);
-        bad("branches 2;van 5 0 1 0 1 0 1 0 1 ^0;", 3);
-        bad("branches 2;van 5 0 1 0 1 0 1 0 1 ^1;", 3);
-        bad("branches 2;van 5 0 1 0 1 0 1 0 1 ^2;", 2);
-        bad("branches 2;van 5 0 1 0 1 0 1 0 1 ^van", 1);
-        bad("branches 3;van 5 0 1 0 1 0 1 2 0^;", 4);
-        bad("branches 2;" + times(4, "van 5 0 1;") + "^van 5 0 1;", 3);
-        bad("branches 2;" + times(4, "van 5 0 1;") + "^van", 3);
-        bad("branches 2;" + times(4, "van 5 0 1;") + "^vans", 1);
-        bad(HEAD + "book 0;^van 5 0 1;", 1);
-        bad("branches 2;" + times(4, "van 5 0 1;") + "book 0;^van 5 0 1;", 1);
+        Due.bad("branches 2;van ^0 0 1;", 2);
+        Due.bad("branches 2;van ^10 0 1;", 2);
+        Due.bad("branches 2;van ^;", 1);
+        Due.bad("branches 2;van 5^;", 1);
+        Due.bad("branches 2;van 5 0^;", 1);
+        Due.bad("branches 2;van 5 0 1^", 1);
+        Due.bad("branches 2;van 5 ^2 1;", 2);
+        Due.bad("branches 2;van 5 0 ^2;", 2);
+        Due.bad("branches 2;van 5 0 ^0;", 4);
+        Due.bad("branches 2;van 5 0 1 ^1;", 4);
+        Due.bad("branches 2;van 5 0 1 0^;", 4);
+        Due.bad("branches 2;van 5 0 1 0^", 1);
+        Due.bad("branches 2;van 5 0 1 0 ^book 0;", 1);
+        Due.bad("branches 3;van 5 2 1 0 1 2^;", 4);
+        Due.good("branches 2;van 5 0 1 0 1 0 1 0 1;", 0);
+        Due.bad("branches 2;van 5 0 1 0 1 0 1 0 1 ^0;", 3);
+        Due.bad("branches 2;van 5 0 1 0 1 0 1 0 1 ^1;", 3);
+        Due.bad("branches 2;van 5 0 1 0 1 0 1 0 1 ^2;", 2);
+        Due.bad("branches 2;van 5 0 1 0 1 0 1 0 1 ^van", 1);
+        Due.bad("branches 3;van 5 0 1 0 1 0 1 2 0^;", 4);
+        Due.bad("branches 2;" + times(4, "van 5 0 1;") + "^van 5 0 1;", 3);
+        Due.bad("branches 2;" + times(4, "van 5 0 1;") + "^van", 3);
+        Due.bad("branches 2;" + times(4, "van 5 0 1;") + "^vans", 1);
+        Due.bad(HEAD + "book 0;^van 5 0 1;", 1);
+        Due.bad("branches 2;" + times(4, "van 5 0 1;") + "book 0;^van 5 0 1;", 1);
     }
 
     private static void books() {
         Due.promise(3, "books and HOLD");
-        bad(HEAD + "book ^2;", 2);
-        bad(HEAD + "book ^;", 1);
-        bad(HEAD + "book 1^", 1);
-        bad(HEAD + "book 1 ^0;", 1);
-        bad(HEAD + times(20, "book 0;") + "^book 0;", 3);
-        bad(HEAD + times(20, "book 0;") + "^book", 3);
-        bad(HEAD + times(20, "book 0;") + "hold 5;^book 0;", 1);
-        bad(HEAD + "hold ^0;", 2);
-        bad(HEAD + "hold ^51;", 2);
-        bad(HEAD + "hold ^;", 1);
-        bad(HEAD + "hold 5^", 1);
-        bad(HEAD + "hold 5;^hold 5;", 1);
-        bad(HEAD + "hold 5;^book 0;", 1);
-        bad(HEAD + "book 0;ask 0 1 1;^hold 5;", 1);
-        bad(HEAD + "book 0;ask 0 1 1;^book 0;", 1);
+        Due.bad(HEAD + "book ^2;", 2);
+        Due.bad(HEAD + "book ^;", 1);
+        Due.bad(HEAD + "book 1^", 1);
+        Due.bad(HEAD + "book 1 ^0;", 1);
+        Due.bad(HEAD + times(20, "book 0;") + "^book 0;", 3);
+        Due.bad(HEAD + times(20, "book 0;") + "^book", 3);
+        Due.bad(HEAD + times(20, "book 0;") + "hold 5;^book 0;", 1);
+        Due.bad(HEAD + "hold ^0;", 2);
+        Due.bad(HEAD + "hold ^51;", 2);
+        Due.bad(HEAD + "hold ^;", 1);
+        Due.bad(HEAD + "hold 5^", 1);
+        Due.bad(HEAD + "hold 5;^hold 5;", 1);
+        Due.bad(HEAD + "hold 5;^book 0;", 1);
+        Due.bad(HEAD + "book 0;ask 0 1 1;^hold 5;", 1);
+        Due.bad(HEAD + "book 0;ask 0 1 1;^book 0;", 1);
     }
 
     private static void requests() {
         Due.promise(3, "requests");
-        bad(HEAD + "ask ^0 1 1;", 2);
-        bad(HEAD + "book 0;ask ^1 1 1;", 2);
-        bad(HEAD + "book 0;ask 0 ^100 1;", 2);
-        bad(HEAD + "book 0;ask 0 99 ^2;", 2);
-        bad(HEAD + "book 0;ask 0 99 ^;", 1);
-        bad(HEAD + "book 0;ask 0 ^;", 1);
-        bad(HEAD + "book 0;ask ^;", 1);
-        bad(HEAD + "book 0;ask 0 1 1^", 1);
-        bad(HEAD + "book 0;ask 0 1 1 ^1;", 1);
-        bad(HEAD + "book 0;book 0;ask 0 1 1;ask 1 1 1;ask 0 2 1;ask 0 ^1 0;", 4);
+        Due.bad(HEAD + "ask ^0 1 1;", 2);
+        Due.bad(HEAD + "book 0;ask ^1 1 1;", 2);
+        Due.bad(HEAD + "book 0;ask 0 ^100 1;", 2);
+        Due.bad(HEAD + "book 0;ask 0 99 ^2;", 2);
+        Due.bad(HEAD + "book 0;ask 0 99 ^;", 1);
+        Due.bad(HEAD + "book 0;ask 0 ^;", 1);
+        Due.bad(HEAD + "book 0;ask ^;", 1);
+        Due.bad(HEAD + "book 0;ask 0 1 1^", 1);
+        Due.bad(HEAD + "book 0;ask 0 1 1 ^1;", 1);
+        Due.bad(HEAD + "book 0;book 0;ask 0 1 1;ask 1 1 1;ask 0 2 1;ask 0 ^1 0;", 4);
         StringBuilder asks = new StringBuilder(HEAD + "book 0;");
         for (int reader = 0; reader < 40; reader++) {
             asks.append("ask 0 ").append(reader).append(" 1;");
         }
-        bad(asks + "^ask 0 40 1;", 3);
-        bad(asks + "^ask", 3);
-        bad(asks + "^asks", 1);
-        bad(asks + "^;", 1);
+        Due.bad(asks + "^ask 0 40 1;", 3);
+        Due.bad(asks + "^ask", 3);
+        Due.bad(asks + "^asks", 1);
+        Due.bad(asks + "^;", 1);
     }
 
     private static void tokens() {
         Due.promise(3, "tokens");
-        bad("^Branches 2;", 1);
-        bad("^branChes 2;", 1);
-        bad("branches ^(2;", 1);
-        bad("branches 2^=;", 1);
-        bad("branches^\t2;", 1);
-        bad("branches^\r\n2;", 1);
-        bad("branches 2;^\u00e1van 5 0 1;", 1);
-        bad("branches 2;van 5 0 1^\u00b0;", 1);
-        bad(HEAD + "^\u0000", 1);
-        bad(HEAD + "^`", 1);
-        bad(HEAD + "^{", 1);
-        bad(HEAD + "^/", 1);
-        bad(HEAD + "^:", 1);
-        bad(HEAD + "^;", 1);
-        bad("branches 2;van 5^x", 1);
+        Due.bad("^Branches 2;", 1);
+        Due.bad("^branChes 2;", 1);
+        Due.bad("branches ^(2;", 1);
+        Due.bad("branches 2^=;", 1);
+        Due.bad("branches^\t2;", 1);
+        Due.bad("branches^\r\n2;", 1);
+        Due.bad("branches 2;^\u00e1van 5 0 1;", 1);
+        Due.bad("branches 2;van 5 0 1^\u00b0;", 1);
+        Due.bad(HEAD + "^\u0000", 1);
+        Due.bad(HEAD + "^`", 1);
+        Due.bad(HEAD + "^{", 1);
+        Due.bad(HEAD + "^/", 1);
+        Due.bad(HEAD + "^:", 1);
+        Due.bad(HEAD + "^;", 1);
+        Due.bad("branches 2;van 5^x", 1);
     }
 
     private static void whatLoadReplaces() {

@@ -3,6 +3,8 @@ public final class P38to43Test {
     private static final int NONE = BranchCourier.NONE;
     private static final String TEXT =
         "branches 4;van 2 1 0 1 2;book 0;book 0;book 2;hold 3;ask 0 5 1;ask 0 6 2;ask 1 5 2;";
+    /** Small enough to be told whole some times within 512 calls. */
+    private static final String SMALL = "branches 2;van 1 1 0;book 0;hold 3;ask 0 5 1;";
 
     public static void main(String[] args) {
         format();
@@ -13,6 +15,7 @@ public final class P38to43Test {
         undoOneByOne();
         whatUndoLeaves();
         snapshots();
+        laterSnapshot();
         snapshotsAndHistory();
         Due.end();
     }
@@ -117,36 +120,6 @@ public final class P38to43Test {
         Due.is("undoCount()", x.undoCount(), 2);
     }
 
-    /** All that can be asked of a library, in one text. */
-    private static String told(BranchCourier x) {
-        StringBuilder t = new StringBuilder();
-        for (int what = 0; what < 13; what++) {
-            t.append(x.size(what)).append(' ');
-        }
-        for (int book = 0; book < x.size(3); book++) {
-            for (int what = 0; what < 9; what++) {
-                t.append(x.book(book, what)).append(' ');
-            }
-            for (int i = 0; i < x.book(book, 4); i++) {
-                t.append(x.request(book, i, 0)).append(':').append(x.request(book, i, 1)).append(' ');
-            }
-        }
-        for (int van = 0; van < x.size(2); van++) {
-            for (int what = 0; what < 6; what++) {
-                t.append(x.van(van, what)).append(' ');
-            }
-        }
-        for (int branch = 0; branch < x.size(0); branch++) {
-            for (int what = 0; what < 6; what++) {
-                t.append(x.branch(branch, what)).append(' ');
-            }
-            for (int other = 0; other < x.size(0); other++) {
-                t.append(x.legs(branch, other)).append(' ');
-            }
-        }
-        return t.toString();
-    }
-
     private static void undoEverything() {
         Due.promise(41, "undo of each operation");
         String[] names = {"ask", "cancel", "recall", "take", "giveBack", "lose", "find", "close", "open", "setHold", "run"};
@@ -166,12 +139,12 @@ public final class P38to43Test {
             if (name.equals("find")) {
                 x.lose(0);
             }
-            String before = told(x);
+            String before = Due.told(x);
             int count = x.undoCount();
             Due.is(name + " succeeds", operate(x, name) >= 0, true);
-            String behind = told(x);
+            String behind = Due.told(x);
             Due.is("undo() of " + name, x.undo(), Math.min(count, 9));
-            Due.is("the library behind undo of " + name, told(x), before);
+            Due.is("the library behind undo of " + name, Due.told(x), before);
             Due.is(name + " changes something", behind.equals(before), false);
         }
     }
@@ -205,19 +178,26 @@ public final class P38to43Test {
 
     private static void undoOneByOne() {
         Due.promise(41, "undo, the most recent first");
-        BranchCourier x = Due.loaded(TEXT);
-        String[] states = new String[13];
-        for (int i = 0; i < states.length; i++) {
-            states[i] = told(x);
+        BranchCourier x = Due.loaded(SMALL);
+        for (int i = 0; i < 13; i++) {
             x.run(1);
         }
         for (int i = 12; i > 2; i--) {
             Due.is("undo()", x.undo(), i - 3);
-            Due.is("the library at " + i, told(x), states[i]);
+            Due.is("the time", x.size(5), i);
+            if (i % 3 == 0) {
+                Due.is("the library at " + i, Due.told(x), smallAt(i));
+            }
         }
         x.run(1);
-        Due.is("the library behind undo and run", told(x), states[4]);
+        Due.is("the library behind undo and run", Due.told(x), smallAt(4));
         Due.is("undoCount()", x.undoCount(), 1);
+    }
+
+    private static String smallAt(int time) {
+        BranchCourier x = Due.loaded(SMALL);
+        x.run(time);
+        return Due.told(x);
     }
 
     private static void whatUndoLeaves() {
@@ -248,7 +228,7 @@ public final class P38to43Test {
         Due.promise(42, "saveSnapshot");
         x.close(3);
         x.take(0, 5);
-        String saved = told(x);
+        String saved = Due.told(x);
         x.saveSnapshot();
         Due.is("undoCount()", x.undoCount(), 3);
         x.giveBack(0, 1);
@@ -259,19 +239,24 @@ public final class P38to43Test {
         x.run(9);
         Due.promise(43, "restoreSnapshot");
         Due.is("restoreSnapshot()", x.restoreSnapshot(), true);
-        Due.is("the library", told(x), saved);
+        Due.is("the library", Due.told(x), saved);
         Due.is("undoCount()", x.undoCount(), 0);
         Due.is("undo()", x.undo(), NONE);
         x.run(50);
         Due.is("restoreSnapshot() again", x.restoreSnapshot(), true);
-        Due.is("the library again", told(x), saved);
+        Due.is("the library again", Due.told(x), saved);
+    }
+
+    private static void laterSnapshot() {
         Due.promise(42, "a later snapshot");
-        x.run(1);
-        String later = told(x);
+        BranchCourier x = Due.loaded(TEXT);
+        x.saveSnapshot();
+        x.run(3);
+        String later = Due.told(x);
         x.saveSnapshot();
         x.run(1);
         x.restoreSnapshot();
-        Due.is("the library", told(x), later);
+        Due.is("the library", Due.told(x), later);
     }
 
     private static void snapshotsAndHistory() {

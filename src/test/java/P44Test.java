@@ -3,8 +3,6 @@ public final class P44Test {
     private static final int NONE = BranchCourier.NONE;
     private static final int HIDDEN = BranchCourier.HIDDEN;
 
-    private static final BranchCourier X = library();
-
     public static void main(String[] args) {
         properties();
         logic();
@@ -17,28 +15,19 @@ public final class P44Test {
         Due.end();
     }
 
-    /** 0 with reader 4, 1 and 2 held at 1, 3 recalled and in van 0, 4 lost, 5 at its home 2, which is closed. */
-    private static BranchCourier library() {
-        BranchCourier x = Due.loaded("branches 4;van 3 1 0;van 3 3 1;book 1;book 0;book 1;book 0;book 3;book 2;hold 9;"
-            + "ask 0 4 1;ask 1 4 1;ask 2 5 1;ask 2 6 2;ask 3 4 3;ask 4 4 1;ask 3 7 3;ask 3 8 1;");
-        x.run(1);
-        x.take(0, 4);
-        x.run(1);
-        x.lose(1);
-        x.recall(3);
-        x.run(2);
-        x.close(2);
-        return x;
-    }
-
     private static void many(String test, int due) {
-        Due.is("many " + test, Due.query(X, "many " + test), due);
-        Due.is("errorPosition() of " + test, X.errorPosition(), NONE);
+        good("many " + test, due);
     }
 
     private static void first(String test, int due) {
-        Due.is("first " + test, Due.query(X, "first " + test), due);
-        Due.is("errorPosition() of " + test, X.errorPosition(), NONE);
+        good("first " + test, due);
+    }
+
+    /** Each query has an object of its own, as an object has 512 calls. */
+    private static void good(String query, int due) {
+        BranchCourier x = Due.everyState();
+        Due.is(query, Due.query(x, query), due);
+        Due.is("errorPosition() of " + query, x.errorPosition(), NONE);
     }
 
     private static void properties() {
@@ -47,7 +36,7 @@ public final class P44Test {
         int[] numbers = {0, 1, 2, 3, 4, 5};
         for (int i = 0; i < names.length; i++) {
             for (int book = 0; book < 6; book++) {
-                int value = X.book(book, numbers[i]);
+                int value = Due.everyState().book(book, numbers[i]);
                 value = value == NONE ? 99 : value;
                 first("book = " + book + " and " + names[i] + " = " + value, book);
                 many("book = " + book + " and " + names[i] + " > " + value, 0);
@@ -119,20 +108,16 @@ public final class P44Test {
         bad("many (((((1 = 1) and ((^(1 = 1", 3);
     }
 
-    /** The error is due at the byte behind the ^, which is no part of the text. */
     private static void bad(String marked, int code) {
-        int position = marked.indexOf('^');
-        String text = marked.substring(0, position) + marked.substring(position + 1);
-        Due.is("query of '" + text + "'", Due.query(X, text), HIDDEN - code);
-        Due.is("errorPosition() of '" + text + "'", X.errorPosition(), position);
+        Due.badQuery(Due.everyState(), marked, code);
     }
 
     private static void texts() {
         Due.promise(44, "tokens of queries");
-        Due.is("without blanks", Due.query(X, "many(book=3)or book<2"), 3);
-        Due.is("with lines", Due.query(X, "\n many\nbook\n<\n00000000000000000000003\n"), 3);
-        Due.is("a number ahead of a word", Due.query(X, "many 3<book"), 2);
-        Due.is("a number next to a word", Due.query(X, "many 3=3and 4=4or 5=6"), 6);
+        good("many(book=3)or book<2", 3);
+        good("\n many\nbook\n<\n00000000000000000000003\n", 3);
+        good("many 3<book", 2);
+        good("many 3=3and 4=4or 5=6", 6);
     }
 
     private static void mistakes() {
@@ -183,7 +168,7 @@ public final class P44Test {
 
     private static void lengths() {
         Due.promise(44, "the length of a query");
-        BranchCourier x = library();
+        BranchCourier x = Due.everyState();
         Due.illegal("query(1) of an empty buffer", () -> x.query(1));
         Due.feed(x, "many book = 1" + " ".repeat(207));
         Due.illegal("query(-1)", () -> x.query(-1));
@@ -209,7 +194,7 @@ public final class P44Test {
 
     private static void whatQueriesLeave() {
         Due.promise(44, "what queries leave");
-        BranchCourier x = library();
+        BranchCourier x = Due.everyState();
         int count = x.undoCount();
         String before = Due.format(x, 2);
         Due.query(x, "many book = 1");

@@ -8,8 +8,9 @@ import java.util.Random;
 
 /** Long runs of random calls (always the same ones), whose answers are compared with those of Model. */
 public final class RandomTest {
-    private static final int RUNS = 500;
-    private static final int CALLS = 500;
+    private static final int RUNS = 600;
+    /** As many as an object is used for. */
+    private static final int CALLS = 512;
     private static final String[] OFTEN = {
         "run", "run", "run", "run", "ask", "ask", "ask", "close", "open", "recall", "take", "take", "giveBack", "lose",
         "find", "cancel", "setHold", "undo", "book", "book", "wouldLoad", "format", "stranded", "arrivesIn", "heldIn",
@@ -19,6 +20,7 @@ public final class RandomTest {
     private final BranchCourier courier = new BranchCourier();
     private final Model model = new Model();
     private final List<String> told = new ArrayList<>();
+    private int calls = 0;
     private static final Method[] METHODS = methods();
 
     private RandomTest(long seed) {
@@ -49,7 +51,7 @@ public final class RandomTest {
         if (random.nextInt(10) > 0 && !text(random.nextInt(20) == 0 ? broken(library()) : library(), "load")) {
             return false;
         }
-        for (int i = 0; i < CALLS; i++) {
+        while (calls < CALLS) {
             int kind = random.nextInt(100);
             boolean right;
             if (kind == 0 && random.nextInt(4) == 0) {
@@ -178,6 +180,10 @@ public final class RandomTest {
     }
 
     private boolean same(String name, int... args) {
+        if (calls >= CALLS) {
+            return true;
+        }
+        calls++;
         told.add(name + Arrays.toString(args));
         String got = answer(courier, name, args);
         String want = answer(model, name, args);
