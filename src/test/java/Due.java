@@ -138,7 +138,7 @@ final class Due {
         return "undoCount " + x.undoCount() + " errorPosition " + x.errorPosition() + " " + told(x);
     }
 
-    /** All that undoing restores, as far as it can be asked for, in one text; some hundred calls for a small library. */
+    /** All that undoing restores, as far as it can be asked for; some hundred calls for a small library. */
     static String told(BranchCourier x) {
         StringBuilder t = new StringBuilder();
         t.append("size ");

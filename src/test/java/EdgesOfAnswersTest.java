@@ -249,6 +249,11 @@ public final class EdgesOfAnswersTest {
         Due.sentence(12, "NONE if there is none");
         Due.is("placeOf(0, 4) of the reader who has it", x.placeOf(0, 4), NONE);
         Due.is("placeOf(5, 4)", x.placeOf(5, 4), NONE);
+        Due.is("placeOf(1, 39) with 40 requests", Due.loaded(Due.fortyRequests()).placeOf(1, 39), NONE);
+        BranchCourier gone = Due.everyState();
+        gone.cancel(3, 8);
+        Due.is("placeOf(3, 8) of the request that came last, and has gone", gone.placeOf(3, 8), NONE);
+        Due.is("requestsOf(8)", gone.requestsOf(8), 0);
         for (int reader : new int[] {-1, 100, Integer.MIN_VALUE, Integer.MAX_VALUE}) {
             Due.is("placeOf(3, " + reader + ")", x.placeOf(3, reader), NONE);
         }
@@ -470,7 +475,8 @@ public final class EdgesOfAnswersTest {
         Due.is("bookIn(3, 5, 1)", x.bookIn(3, 5, 1), 0);
         Due.is("bookIn(0, 6, 200)", x.bookIn(0, 6, 200), 4);
         Due.is("bookIn(4, 1, 200)", x.bookIn(4, 1, 200), NONE);
-        Due.sentence(20, "Throws NoSuchElementException if there is no such book or what is out of range (checked first)");
+        Due.sentence(20, "Throws NoSuchElementException if there is no such book or what is out of range"
+            + " (checked first)");
         Due.counted("bookIn of a book", book -> x.bookIn(book, 0, 1), 6);
         Due.counted("bookIn of what", what -> x.bookIn(0, what, 1), 9);
         Due.missing("bookIn(6, 0, 201)", () -> x.bookIn(6, 0, 201));
@@ -578,6 +584,11 @@ public final class EdgesOfAnswersTest {
         Due.is("of 0 and 1", y.hub(), 4);
         y.close(1);
         Due.is("of a pair of two", y.hub(), 0);
+        // 1 cuts off 0, 2 cuts off 4, each from four others; and 5 in the place of 0.
+        Due.is("pairs of the first branch", Due.loaded("branches 6;van 1 0 1;van 1 1 2 3 5;van 1 2 4;").hub(), 1);
+        Due.is("pairs of the last branch", Due.loaded("branches 6;van 1 5 1;van 1 1 2 3 0;van 1 2 4;").hub(), 1);
+        // Closing 1 or 2 ends the legs between these two alone; 0 has none to lose.
+        Due.is("pairs of the branch itself", Due.loaded("branches 3;van 1 1 2;").hub(), 0);
         Due.sentence(24, "of several the smallest");
         BranchCourier alike = Due.loaded("branches 6;van 1 2 3;van 1 3 4;van 1 4 5;");
         Due.is("of 3 and 4", alike.hub(), 3);
@@ -596,7 +607,8 @@ public final class EdgesOfAnswersTest {
     }
 
     private static void loaded() {
-        Due.sentence(25, "the books in vans divided by the room of all vans, as doubles (both converted, then divided)");
+        Due.sentence(25, "the books in vans divided by the room of all vans, as doubles"
+            + " (both converted, then divided)");
         Due.isExactly("of a new object", new BranchCourier().loaded(), 0.0);
         BranchCourier x = fullVans();
         Due.isExactly("5 of 15", x.loaded(), 5.0 / 15.0);

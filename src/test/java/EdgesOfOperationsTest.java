@@ -361,6 +361,14 @@ public final class EdgesOfOperationsTest {
         Due.counted("giveBack to a branch", branch -> y.giveBack(0, branch), 4);
     }
 
+    /** The first and the last of 20 books are in van 0, which is to bring them to 1 in the next tick. */
+    private static BranchCourier twentyBooks() {
+        BranchCourier x = Due.loaded("branches 3;van 2 1 0;" + "book 0;" + "book 2;".repeat(18) + "book 0;"
+            + "ask 0 7 1;ask 19 7 1;");
+        x.run(1);
+        return x;
+    }
+
     private static void lose() {
         Due.sentence(32, "all books in a van are lost");
         BranchCourier x = Due.loaded("branches 2;van 3 1 0;van 3 1 0;" + "book 0;".repeat(5)
@@ -375,6 +383,10 @@ public final class EdgesOfOperationsTest {
         Due.is("a recalled book", Due.format(x, 1), "1?r 1:1");
         Due.is("its place", x.book(1, 1), NONE);
         Due.is("lose(1)", x.lose(1), 2);
+        BranchCourier twenty = twentyBooks();
+        Due.is("lose(0) with the first and the last of 20 books", twenty.lose(0), 2);
+        Due.is("the first book", twenty.book(0, 0), 4);
+        Due.is("the last book", twenty.book(19, 0), 4);
         Due.sentence(32, "Throws NoSuchElementException if there is no such van");
         Due.counted("lose", x::lose, 2);
     }
@@ -423,6 +435,12 @@ public final class EdgesOfOperationsTest {
         BranchCourier other = Due.everyState();
         other.close(0);
         Due.is("held at another branch", other.branch(1, 2), 2);
+        BranchCourier twenty = twentyBooks();
+        twenty.run(1);
+        Due.is("the first and the last of 20 books are held", twenty.branch(1, 2), 2);
+        twenty.close(1);
+        Due.is("the first book", Due.format(twenty, 0), "0@1 7:1");
+        Due.is("the last book", Due.format(twenty, 19), "19@1 7:1");
         Due.sentence(34, "Returns how many books are on its shelf then");
         Due.is("close(0) of a branch without books", x.close(0), 0);
         x.giveBack(0, 3);
@@ -458,6 +476,10 @@ public final class EdgesOfOperationsTest {
         x.close(1);
         x.recall(1);
         Due.is("open(1) with a recalled book", x.open(1), 1);
+        BranchCourier twenty = twentyBooks();
+        twenty.run(1);
+        twenty.close(1);
+        Due.is("open(1) with the first and the last of 20 books", twenty.open(1), 2);
         Due.sentence(35, "-2 if it is open");
         Due.is("open(1) again", x.open(1), -2);
         Due.is("open(0)", x.open(0), -2);

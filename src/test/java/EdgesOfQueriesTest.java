@@ -222,7 +222,8 @@ public final class EdgesOfQueriesTest {
 
     private static void openAtTheSameTime() {
         Due.sentence("Queries", "3 for a 'not' or '(' that would be the seventh one open at the same time");
-        String[] six = {"((((((", "not not not not not not ", "(((((not ", "not((((( ", "not(not(not(", "(not(not(not "};
+        String[] six =
+            {"((((((", "not not not not not not ", "(((((not ", "not((((( ", "not(not(not(", "(not(not(not "};
         String[] ends = {"))))))", "", ")))))", ")))))", ")))", ")))"};
         int[] due = {1, 1, 5, 5, 5, 5};
         for (int i = 0; i < six.length; i++) {

@@ -35,7 +35,12 @@ public final class EdgesOfTextsTest {
         Due.bad("^branche 2;van 5 0 1;", 1);
         Due.bad("^branchess 2;van 5 0 1;", 1);
         Due.bad("^branchesvan 2;van 5 0 1;", 1);
+        Due.bad("^branchesz 2;van 5 0 1;", 1);
+        Due.bad("^aranches 2;van 5 0 1;", 1);
+        Due.bad("^brancher 2;van 5 0 1;", 1);
+        Due.bad("branches 2;^ban 5 0 1;", 1);
         Due.bad("branches 2;^vana 5 0 1;", 1);
+        Due.bad("branches 2;^vanz 5 0 1;", 1);
         Due.bad("branches 2;^vaz 5 0 1;", 1);
         Due.bad("branches 2;^zvan 5 0 1;", 1);
         Due.bad("branches 2;van^` 5 0 1;", 1);
@@ -227,8 +232,8 @@ public final class EdgesOfTextsTest {
             int least = (Integer) place[2];
             int most = (Integer) place[3];
             for (int value : new int[] {least, most}) {
-                BranchCourier x = new BranchCourier();
-                Due.check(place[0] + "" + value + place[1], Due.load(x, place[0] + "" + value + place[1]) >= 0, "fails");
+                String text = place[0] + "" + value + place[1];
+                Due.check("load of '" + text + "'", Due.load(new BranchCourier(), text) >= 0, "has an error");
             }
             long[] wrong = {least - 1, most + 1, 256L + least, (1L << 32) + least, (1L << 32) - 1, Long.MAX_VALUE};
             for (long value : wrong) {
@@ -350,6 +355,7 @@ public final class EdgesOfTextsTest {
         Due.is("size(6)", used.size(6), 10);
         Due.is("the library", Due.told(used), fresh);
         Due.is("what it forecasts", used.arrivesIn(1), Due.loaded(text).arrivesIn(1));
+        loadsOneBehindAnother(text, fresh);
         Due.sentence(3, "the undo history and the snapshot are discarded");
         BranchCourier past = Due.everyState();
         past.saveSnapshot();
@@ -370,12 +376,35 @@ public final class EdgesOfTextsTest {
         Due.is("feed behind load(0)", x.feed(0, 0, 0, 0, 0), 20);
     }
 
+    /** Nothing of what earlier texts, good or bad, operations or forecasts left is seen behind a load. */
+    private static void loadsOneBehindAnother(String text, String fresh) {
+        BranchCourier x = Due.loaded("branches 6;" + "van 9 5 4 3 2 1 0 1 2;".repeat(4) + "book 5;".repeat(20)
+            + "hold 50;ask 0 4 1;ask 19 4 1;");
+        x.run(9);
+        x.recall(19);
+        x.bookIn(0, 0, 77);
+        Due.is("a text with an error", Due.load(x, "branches 6;van 7 5 4 3;van 8 4 5;book 5;book 4;book 6;"), -12);
+        Due.is("the second text", Due.load(x, "branches 3;van 1 2 1;van 2 0 1;book 2;book 2;book 0;"), 3);
+        Due.is("stops of the second text", x.van(0, 1), 2);
+        Due.is("where its vans stand", x.van(0, 2) + x.van(1, 2), 0);
+        x.ask(1, 7, 1);
+        x.run(3);
+        Due.is("a held book is recalled", x.recall(1), 2);
+        Due.is("a forecast of it", x.bookIn(1, 5, 0), 1);
+        Due.is("the third text", Due.load(x, text), 2);
+        Due.is("the library", Due.told(x), fresh);
+        BranchCourier other = Due.loaded(text);
+        Due.is("a forecast", x.bookIn(1, 7, 9), other.bookIn(1, 7, 9));
+        Due.is("lose(0)", x.lose(0), 0);
+    }
+
     private static void loadAnswers() {
         Due.sentence(3, "Returns the number of books");
         Due.good(HEAD, 0);
         Due.good(HEAD + "book 0;", 1);
         Due.good(HEAD + "book 0;".repeat(20), 20);
-        Due.sentence(3, "-10 minus the error code if the text has an error (then only the buffer and the error position change)");
+        Due.sentence(3, "-10 minus the error code if the text has an error"
+            + " (then only the buffer and the error position change)");
         String[] texts = {"branches 6;van 9 5 4;van 8 3 2;book 1;hold 5;ask 0 0 0", "branches 5;van 9 4 3;hold 60;",
             "branches 6;" + "van 1 5 4;".repeat(4) + "van", "branches 6;van 9 5 4;book 5;ask 0 0 5;ask 0 0 5;"};
         int[] due = {-11, -12, -13, -14};

@@ -146,11 +146,11 @@ public final class EdgesOfTicksTest {
 
     private static void loadingWithLegs() {
         Due.sentence("A tick", "have a goal with legs from this branch (at least 1)");
-        // Book 0 is at its goal, book 1 has no way to its goal 3, book 2 (of the closed home 4) has no goal.
-        BranchCourier x = Due.loaded("branches 5;van 9 1 0 2;book 0;book 0;book 4;book 0;ask 1 1 3;ask 2 1 0;ask 3 1 2;");
-        x.close(4);
+        // Book 0 is at its goal, book 1 has no way to its goal 3; a closed branch on the route makes neither come in.
+        BranchCourier x = Due.loaded("branches 4;van 9 1 0 2;book 0;book 0;book 0;ask 1 1 3;ask 2 1 2;");
         x.close(1);
-        tick(x, "0@0", "1@0 1:3", "2@4 1:0", "3>0 1:2");
+        tick(x, "0@0", "1@0 1:3", "2>0 1:2");
+        // Without a goal: its home is closed, and it has no request.
         BranchCourier y = Due.loaded("branches 3;van 9 1 0 2;book 0;ask 0 1 2;");
         tick(y, "0>0 1:2");
         y.lose(0);
